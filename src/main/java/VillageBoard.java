@@ -1278,7 +1278,8 @@ public final class VillageBoard {
                 return false;
             }
             for (int i = 0; i < word.length(); i++) {
-                if (byteAt(tokenStart + i) != word.charAt(i)) {
+                int place = tokenStart + i;
+                if (place < 0 || place >= text.length || text[place] != word.charAt(i)) {
                     return false;
                 }
             }
