@@ -170,7 +170,7 @@ public final class VillageBoard {
         }
         int taken = has(now.stones[1 - mover], to) ? 1 : 0;
         acts.keep(now);
-        now.bring(mover, from, to);
+        now.bringStone(mover, from, to);
         now.endEvening(land);
         return taken;
     }
@@ -194,7 +194,7 @@ public final class VillageBoard {
             return false;
         }
         acts.keep(now);
-        now.bring(stone, from, to);
+        now.bringStone(stone, from, to);
         return true;
     }
 
@@ -255,7 +255,7 @@ public final class VillageBoard {
         }
         // The other side loses no stone by its own evening: 2 are as good as 1.
         for (int evenings = 1; evenings <= 3; evenings += 2) {
-            if (Foresight.forces(land, own, foe, now.evening, evenings)) {
+            if (Foresight.canForceWin(land, own, foe, now.evening, evenings)) {
                 return evenings;
             }
         }
@@ -273,7 +273,7 @@ public final class VillageBoard {
             if (has(reached, to)) {
                 return moves;
             }
-            reached |= land.around(reached) & land.without(now.allStones());
+            reached |= land.besideAnyOf(reached) & land.without(now.allStones());
         }
         return NONE;
     }
@@ -322,7 +322,7 @@ public final class VillageBoard {
             return NONE;
         }
         // Longs: what is added is told as it is, and doesn't wrap.
-        long missing = needOf(from, to) - styleGives(from, to);
+        long missing = leastThatWins(from, to) - styleGives(from, to);
         if (missing <= 0) {
             return 0;
         }
@@ -401,7 +401,7 @@ public final class VillageBoard {
         int foe = now.stones[1 - side];
         int byPass = leadAfter(side, NONE, 2);
         for (int from = 0; from < land.villages; from++) {
-            int targets = has(own, from) ? land.targets(own, foe, from, now.evening) : 0;
+            int targets = has(own, from) ? land.lawfulTargets(own, foe, from, now.evening) : 0;
             for (int to = 0; to < land.villages; to++) {
                 if (has(targets, to) && leadAfter(side, 100 * from + to, 2) > byPass) {
                     return false;
@@ -498,7 +498,7 @@ public final class VillageBoard {
         for (int village = 0; village < land.villages; village++) {
             if (has(left, village)) {
                 sum++;
-                left &= ~land.spread(1 << village, left);
+                left &= ~land.reachedWithin(left, 1 << village);
             }
         }
         return sum;
@@ -530,7 +530,7 @@ public final class VillageBoard {
         if (now.stoneIn(village) == NOBODY) {
             return 0;
         }
-        return land.spread(1 << village, land.without(now.allStones())) & ~(1 << village);
+        return land.reachedWithin(land.without(now.allStones()), 1 << village) & ~(1 << village);
     }
 
     public int guard(int village) throws NoSuchElementException {
@@ -549,7 +549,8 @@ public final class VillageBoard {
             if (land.takersOf(own | guards, foe, village, now.evening) == 0) {
                 return guards;
             }
-            guards |= Integer.lowestOneBit(free & ~guards);
+            int left = free & ~guards;
+            guards |= left & -left;
         }
         return NONE;
     }
@@ -654,7 +655,7 @@ public final class VillageBoard {
         if (owner == NOBODY) {
             return 0;
         }
-        return land.targets(now.stones[owner], now.stones[1 - owner], from, now.evening);
+        return land.lawfulTargets(now.stones[owner], now.stones[1 - owner], from, now.evening);
     }
 
     private boolean mayMoveInTurn(int from, int to) {
@@ -683,11 +684,10 @@ public final class VillageBoard {
     }
 
     private int leadIn(int side, int evenings) {
-        return Foresight.lead(land, now.stones[side], now.stones[1 - side],
+        return Foresight.bestLead(land, now.stones[side], now.stones[1 - side],
                 now.flags[side], now.flags[1 - side], now.evening, evenings);
     }
 
-    /** The lead of a side in so many evenings, the first one being its move. */
     private int leadAfter(int side, int move, int evenings) {
         int own = now.stones[side];
         int foe = now.stones[1 - side];
@@ -700,7 +700,7 @@ public final class VillageBoard {
             ownFlags |= there;
             foeFlags &= ~there;
         }
-        return -Foresight.lead(land, foe, own, foeFlags, ownFlags, now.evening + 1, evenings - 1);
+        return -Foresight.bestLead(land, foe, own, foeFlags, ownFlags, now.evening + 1, evenings - 1);
     }
 
     private int bestMove(int evenings) {
@@ -727,12 +727,11 @@ public final class VillageBoard {
 
     private int styleGives(int from, int to) {
         int mover = now.turn();
-        land.weigh(now.stones[mover], now.stones[1 - mover], now.flags[mover], from, to, now.evening);
+        land.setValues(now.stones[mover], now.stones[1 - mover], now.flags[mover], from, to, now.evening);
         return land.rules.give(now.style[mover]);
     }
 
-    /** What the style must give for a move, at least, so that it is done. */
-    private long needOf(int from, int to) {
+    private long leastThatWins(int from, int to) {
         int mover = now.turn();
         long need = 1;
         for (int f = 0; f < land.villages; f++) {
@@ -747,7 +746,7 @@ public final class VillageBoard {
         return need;
     }
 
-    /** What a text tells; it stays until the next one. */
+    /** What a text tells. It is kept apart from the Position, for no evening changes it. */
     private static final class Land {
         int villages = 0;
         int roads = 0;
@@ -795,7 +794,7 @@ public final class VillageBoard {
             } else {
                 styleCount++;
             }
-            rules.bound(rule, start);
+            rules.setRule(rule, start);
         }
 
         int without(int taken) {
@@ -812,8 +811,7 @@ public final class VillageBoard {
             return sum;
         }
 
-        /** All to which there is a road from one of these. */
-        int around(int set) {
+        int besideAnyOf(int set) {
             int all = 0;
             for (int village = 0; village < villages; village++) {
                 if (has(set, village)) {
@@ -823,17 +821,15 @@ public final class VillageBoard {
             return all;
         }
 
-        /** These, and all that can be reached from them within the ground. */
-        int spread(int start, int ground) {
+        int reachedWithin(int ground, int start) {
             int reached = start;
             for (int step = 0; step < MAX_VILLAGES; step++) {
-                reached |= around(reached) & ground;
+                reached |= besideAnyOf(reached) & ground;
             }
             return reached;
         }
 
-        /** Where the stone in a village may move to. */
-        int targets(int own, int foe, int from, int evening) {
+        int lawfulTargets(int own, int foe, int from, int evening) {
             int open = neighbours[from] & ~own & ~foe;
             int prey = neighbours[from] & foe;
             for (int to = 0; to < villages && prey != 0; to++) {
@@ -846,7 +842,7 @@ public final class VillageBoard {
 
         private boolean mayTake(int own, int foe, int from, int to, int evening) {
             // Where a stone stands its flag flies: of the taker's own flags none is there.
-            weigh(own, foe, own, from, to, evening);
+            setValues(own, foe, own, from, to, evening);
             if (hasTakes) {
                 return rules.give(Rules.TAKES_RULE) > 0;
             }
@@ -854,12 +850,11 @@ public final class VillageBoard {
             return helps > rules.values[Rules.GUARDS] + rules.values[Rules.FORT] - 1;
         }
 
-        /** What a move to a village adds to the lead: a flag of the foe's counts twice. */
-        int gainIn(int to, int ownFlags, int foeFlags) {
+        int gainOfMoveTo(int to, int ownFlags, int foeFlags) {
+            // A flag of the foe's counts twice: one side has it more, the other one less.
             return has(ownFlags, to) ? 0 : has(foeFlags, to) ? 2 * worth[to] : worth[to];
         }
 
-        /** From which villages the foe may take the stone in this one. */
         int takersOf(int own, int foe, int village, int evening) {
             int takers = 0;
             int near = neighbours[village] & foe;
@@ -871,7 +866,6 @@ public final class VillageBoard {
             return takers;
         }
 
-        /** The own stones that the foe may take. */
         int enPrise(int own, int foe, int evening) {
             int all = 0;
             for (int village = 0; village < villages; village++) {
@@ -886,14 +880,13 @@ public final class VillageBoard {
             int sum = 0;
             for (int from = 0; from < villages; from++) {
                 if (has(own, from)) {
-                    sum += Integer.bitCount(targets(own, foe, from, evening));
+                    sum += Integer.bitCount(lawfulTargets(own, foe, from, evening));
                 }
             }
             return sum;
         }
 
-        /** The values of a move, for the rules. */
-        void weigh(int own, int foe, int ownFlags, int from, int to, int evening) {
+        void setValues(int own, int foe, int ownFlags, int from, int to, int evening) {
             int near = neighbours[to];
             int[] values = rules.values;
             values[Rules.HELPS] = Integer.bitCount(near & own & ~(1 << from));
@@ -907,7 +900,7 @@ public final class VillageBoard {
         }
     }
 
-    /** Styles and what takes, each as numbers, values and signs, a sign behind what it joins. */
+    /** The rules, each with its signs behind what they join: so giving a value needs no recursion. */
     private static final class Rules {
         static final int HELPS = 0;
         static final int GUARDS = 1;
@@ -964,15 +957,13 @@ public final class VillageBoard {
             }
         }
 
-        /** What was added from this start on is the rule. */
-        void bound(int rule, int itsStart) {
+        void setRule(int rule, int itsStart) {
             if (rule >= 0 && rule <= MAX_STYLES) {
                 start[rule] = itsStart;
                 end[rule] = length;
             }
         }
 
-        /** What a rule gives for the values as they are. */
         int give(int rule) {
             if (rule < 0 || rule > MAX_STYLES) {
                 return 0;
@@ -1013,7 +1004,6 @@ public final class VillageBoard {
         }
     }
 
-    /** Reads a text from its first token to its last, or to its first fault. */
     private static final class Reader {
         static final int MAX_NOTS = 6;
         static final int MAX_WITHIN = 6;
@@ -1032,7 +1022,7 @@ public final class VillageBoard {
         static final int LONG_NUMBER = 3;
         static final int NO_TOKEN = 4;
 
-        /** How closely what stands there is bound; each one is made of the next one. */
+        /** Levels of an expression, each made of the next one: one method can read them all. */
         static final int OR_LEVEL = 0;
         static final int AND_LEVEL = 1;
         static final int NOT_LEVEL = 2;
@@ -1049,14 +1039,13 @@ public final class VillageBoard {
         int kind = THE_END;
         int number = 0;
 
-        /** The first fault, at the token that it stopped at; 0 without. */
         int read(int[] itsText, int itsLength) {
             text = itsText;
             length = Math.min(itsLength, itsText.length);
             land.clear();
             fault = 0;
             tokenEnd = 0;
-            step();
+            nextToken();
             for (int line = 0; line < MAX_TEXT && kind != THE_END; line++) {
                 if (!readLine()) {
                     return fault;
@@ -1065,7 +1054,6 @@ public final class VillageBoard {
             return 0;
         }
 
-        /** What was read, for what has had its day: the next text is read into that. */
         Land handOver(Land old) {
             Land told = land;
             land = old;
@@ -1098,7 +1086,7 @@ public final class VillageBoard {
                 more = refuse(CANT_STAND);
             }
             if (more) {
-                step();
+                nextToken();
             }
             return more;
         }
@@ -1107,7 +1095,7 @@ public final class VillageBoard {
             if (land.villages >= MAX_VILLAGES) {
                 return refuse(TOO_MUCH);
             }
-            step();
+            nextToken();
             int worth = readNumber(MAX_WORTH);
             if (worth == NONE) {
                 return false;
@@ -1124,7 +1112,7 @@ public final class VillageBoard {
             if (land.roads >= MAX_ROADS) {
                 return refuse(TOO_MUCH);
             }
-            step();
+            nextToken();
             if (kind == NUMBER && number >= land.villages) {
                 return refuse(UNKNOWN);
             }
@@ -1156,12 +1144,12 @@ public final class VillageBoard {
                 return NONE;
             }
             int it = number;
-            step();
+            nextToken();
             return it;
         }
 
         private boolean readRule(int rule) {
-            step();
+            nextToken();
             int start = land.rules.length;
             if (!readLevel(OR_LEVEL, 0)) {
                 return false;
@@ -1170,7 +1158,6 @@ public final class VillageBoard {
             return true;
         }
 
-        /** What is bound as closely as the level says, in an expression within so many others. */
         private boolean readLevel(int level, int within) {
             if (level == NOT_LEVEL) {
                 return readNot(level, within);
@@ -1183,7 +1170,7 @@ public final class VillageBoard {
             }
             for (int i = 0; i < MAX_TEXT && joint(level) != NONE; i++) {
                 int sign = joint(level);
-                step();
+                nextToken();
                 if (!readLevel(level + 1, within)) {
                     return false;
                 }
@@ -1195,7 +1182,7 @@ public final class VillageBoard {
         private boolean readNot(int level, int within) {
             int nots = 0;
             for (; nots < MAX_NOTS && isWord("not"); nots++) {
-                step();
+                nextToken();
             }
             if (nots == MAX_NOTS && isWord("not")) {
                 return refuse(TOO_MUCH);
@@ -1205,7 +1192,7 @@ public final class VillageBoard {
             }
             int sign = joint(level);
             if (sign != NONE) {
-                step();
+                nextToken();
                 if (!readLevel(level + 1, within)) {
                     return false;
                 }
@@ -1219,7 +1206,7 @@ public final class VillageBoard {
 
         private boolean readPart(int within) {
             if (kind == '(') {
-                step();
+                nextToken();
                 if (within + 1 >= MAX_WITHIN) {
                     return refuse(canBegin() ? TOO_MUCH : CANT_STAND);
                 }
@@ -1240,16 +1227,14 @@ public final class VillageBoard {
             } else {
                 return refuse(kind == LONG_NUMBER ? TOO_MUCH : CANT_STAND);
             }
-            step();
+            nextToken();
             return true;
         }
 
-        /** Whether an expression can begin with the token. */
         private boolean canBegin() {
             return kind == WORD || kind == NUMBER || kind == LONG_NUMBER || kind == '(';
         }
 
-        /** The sign that joins what is bound so closely, if it stands here. */
         private int joint(int level) {
             switch (level) {
                 case OR_LEVEL: return isWord("or") ? Rules.OR : NONE;
@@ -1286,8 +1271,7 @@ public final class VillageBoard {
             return true;
         }
 
-        /** Goes on to the next token. */
-        private void step() {
+        private void nextToken() {
             tokenStart = tokenEnd;
             for (int i = 0; i < MAX_TEXT && (byteAt(tokenStart) == ' ' || byteAt(tokenStart) == 10); i++) {
                 tokenStart++;
@@ -1331,7 +1315,7 @@ public final class VillageBoard {
         }
     }
 
-    /** What changes from evening to evening. The turn goes with the evening: even ones are the north's. */
+    /** What evenings change. It has no turn of its own: only evenings change that, so even ones are the north's. */
     private static final class Position {
         static final int ROW = 9 + 2 * MAX_VILLAGES;
 
@@ -1404,8 +1388,7 @@ public final class VillageBoard {
             return has(flags[0], village) ? 0 : has(flags[1], village) ? 1 : NOBODY;
         }
 
-        /** Brings a side's stone to a village; what stands there is taken, the flag is turned. */
-        void bring(int side, int from, int to) {
+        void bringStone(int side, int from, int to) {
             int there = 1 << to;
             stones[side] = stones[side] & ~(1 << from) | there;
             stones[1 - side] &= ~there;
@@ -1424,11 +1407,10 @@ public final class VillageBoard {
             evening++;
         }
 
-        /** An evening by style: the move that it was. */
         int playEvening(Land land) {
             int move = moveByStyle(land);
             if (move != NONE) {
-                bring(turn(), move / 100, move % 100);
+                bringStone(turn(), move / 100, move % 100);
             }
             endEvening(land);
             return move;
@@ -1441,10 +1423,10 @@ public final class VillageBoard {
             int best = NONE;
             int most = 0;
             for (int from = 0; from < land.villages && rule != NONE; from++) {
-                int targets = has(own, from) ? land.targets(own, foe, from, evening) : 0;
+                int targets = has(own, from) ? land.lawfulTargets(own, foe, from, evening) : 0;
                 for (int to = 0; to < land.villages; to++) {
                     if (has(targets, to)) {
-                        land.weigh(own, foe, flags[turn()], from, to, evening);
+                        land.setValues(own, foe, flags[turn()], from, to, evening);
                         int given = land.rules.give(rule);
                         if (given > most) {
                             most = given;
@@ -1456,18 +1438,17 @@ public final class VillageBoard {
             return best;
         }
 
-        /** An evening by draw, from a number that is at least 0. */
         void drawEvening(Land land, int drawn) {
             int own = stones[turn()];
             int foe = stones[1 - turn()];
             int choices = land.countMoves(own, foe, evening) + 1;
             int left = choices > 0 ? drawn % choices : 0;
             for (int from = 0; from < land.villages && left >= 0; from++) {
-                int targets = has(own, from) ? land.targets(own, foe, from, evening) : 0;
+                int targets = has(own, from) ? land.lawfulTargets(own, foe, from, evening) : 0;
                 for (int to = 0; to < land.villages && left >= 0; to++) {
                     if (has(targets, to)) {
                         if (left == 0) {
-                            bring(turn(), from, to);
+                            bringStone(turn(), from, to);
                         }
                         left--;
                     }
@@ -1477,7 +1458,7 @@ public final class VillageBoard {
         }
     }
 
-    /** What was before each of the latest acts; a ring, so that the oldest ones give way. */
+    /** Whole positions from before each act, for an act may be 30 evenings; a ring, so that the oldest gives way. */
     private static final class Acts {
         final int[] rows = new int[MAX_ACTS * Position.ROW];
         int first = 0;
@@ -1511,7 +1492,6 @@ public final class VillageBoard {
         }
     }
 
-    /** What is seen: evenings from now on, and their moves. */
     private static final class Sightings {
         final int[] evenings = new int[MAX_SEEN];
         final int[] moves = new int[MAX_SEEN];
@@ -1535,7 +1515,6 @@ public final class VillageBoard {
             kept = other.kept;
         }
 
-        /** Whether all of it is so in a row of 30 moves. */
         boolean fit(int[] rows, int at) {
             for (int i = 0; i < kept; i++) {
                 int place = at + evenings[i];
@@ -1547,7 +1526,6 @@ public final class VillageBoard {
         }
     }
 
-    /** Couples of styles by which all that is seen would be so, with their moves. */
     private static final class Couples {
         final int[] moves = new int[MAX_STYLES * MAX_STYLES * MAX_PLAYED];
         int found = 0;
@@ -1592,25 +1570,23 @@ public final class VillageBoard {
         }
     }
 
-    /** What comes of all moves and all replies. */
     private static final class Foresight {
 
-        /** By how much the side to move leads in so many evenings (3 at most). */
-        static int lead(Land land, int own, int foe, int ownFlags, int foeFlags, int evening, int left) {
+        static int bestLead(Land land, int own, int foe, int ownFlags, int foeFlags, int evening, int left) {
             int most = left <= 1
                     ? land.worthOf(ownFlags) - land.worthOf(foeFlags)
-                    : -lead(land, foe, own, foeFlags, ownFlags, evening + 1, left - 1);
+                    : -bestLead(land, foe, own, foeFlags, ownFlags, evening + 1, left - 1);
             int stands = most;
             for (int from = 0; from < land.villages && left > 0; from++) {
-                int targets = has(own, from) ? land.targets(own, foe, from, evening) : 0;
+                int targets = has(own, from) ? land.lawfulTargets(own, foe, from, evening) : 0;
                 for (int to = 0; to < land.villages; to++) {
                     if (has(targets, to)) {
                         int there = 1 << to;
                         int moved = own & ~(1 << from) | there;
                         // The last evening has no reply: what it adds is known at once.
                         int it = left == 1
-                                ? stands + land.gainIn(to, ownFlags, foeFlags)
-                                : -lead(land, foe & ~there, moved, foeFlags & ~there,
+                                ? stands + land.gainOfMoveTo(to, ownFlags, foeFlags)
+                                : -bestLead(land, foe & ~there, moved, foeFlags & ~there,
                                         ownFlags | there, evening + 1, left - 1);
                         most = Math.max(most, it);
                     }
@@ -1619,37 +1595,35 @@ public final class VillageBoard {
             return most;
         }
 
-        /** Whether the side to move can leave the foe without stones in so many evenings. */
-        static boolean forces(Land land, int own, int foe, int evening, int left) {
+        static boolean canForceWin(Land land, int own, int foe, int evening, int left) {
             // An evening takes one stone at most, and every other one is the foe's.
             if (Integer.bitCount(foe) > (left + 1) / 2) {
                 return false;
             }
             for (int from = 0; from < land.villages; from++) {
-                int targets = has(own, from) ? land.targets(own, foe, from, evening) : 0;
+                int targets = has(own, from) ? land.lawfulTargets(own, foe, from, evening) : 0;
                 for (int to = 0; to < land.villages; to++) {
                     int moved = own & ~(1 << from) | 1 << to;
-                    if (has(targets, to) && holds(land, moved, foe & ~(1 << to), evening + 1, left - 1)) {
+                    if (has(targets, to) && cannotEscape(land, moved, foe & ~(1 << to), evening + 1, left - 1)) {
                         return true;
                     }
                 }
             }
-            return holds(land, own, foe, evening + 1, left - 1);
+            return cannotEscape(land, own, foe, evening + 1, left - 1);
         }
 
-        /** Whether the foe, now to move, is without stones or can't help it. */
-        private static boolean holds(Land land, int own, int foe, int evening, int left) {
+        private static boolean cannotEscape(Land land, int own, int foe, int evening, int left) {
             if (foe == 0) {
                 return true;
             }
-            if (left < 2 || !forces(land, own, foe, evening + 1, left - 1)) {
+            if (left < 2 || !canForceWin(land, own, foe, evening + 1, left - 1)) {
                 return false;
             }
             for (int from = 0; from < land.villages; from++) {
-                int targets = has(foe, from) ? land.targets(foe, own, from, evening) : 0;
+                int targets = has(foe, from) ? land.lawfulTargets(foe, own, from, evening) : 0;
                 for (int to = 0; to < land.villages; to++) {
                     int moved = foe & ~(1 << from) | 1 << to;
-                    if (has(targets, to) && !forces(land, own & ~(1 << to), moved, evening + 1, left - 1)) {
+                    if (has(targets, to) && !canForceWin(land, own & ~(1 << to), moved, evening + 1, left - 1)) {
                         return false;
                     }
                 }

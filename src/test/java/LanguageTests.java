@@ -53,7 +53,7 @@ public final class LanguageTests {
             + " reach(int)int guard(int)int key(int)int fork()int regret(int,int)int whose(int)int image()void"
             + " restore()boolean";
     private static final Set<String> LIBRARY = new HashSet<>(Arrays.asList(
-            "String.length", "String.charAt", "Integer.bitCount", "Integer.lowestOneBit",
+            "String.length", "String.charAt", "Integer.bitCount",
             "Math.min", "Math.max", "System.arraycopy"));
     private static final Set<String> EXCEPTIONS = new HashSet<>(Arrays.asList(
             "IllegalArgumentException", "NoSuchElementException"));

@@ -228,6 +228,7 @@ public final class PromiseTests {
         fault(two + "road 0 1;road 0 1;", 4, 34);
         fault(two + "road 1 0;road 0 1;", 4, 34);
         fault(two + "road 2 2;", 3, 23);
+        fault(two + "road 0 2;", 3, 25);
         fault(two + "road 0 9999;", 3, 25);
         fault(two + "road 0 00001;", 2, 25);
         fault(two + "road 99999 0;", 2, 23);
@@ -285,6 +286,9 @@ public final class PromiseTests {
         fault("takes 1", 1, 7);
         fault("style helps guards;", 1, 12);
         fault("style helpsguards;", 3, 6);
+        fault("style abcdefghijklmnopqrstuvwxyz;", 3, 6);
+        fault("style `;", 1, 6);
+        fault("style {;", 1, 6);
         fault("style 1helps;", 1, 7);
     }
 
@@ -450,7 +454,7 @@ public final class PromiseTests {
     }
 
     private static VillageBoard lateEvening(int evening) {
-        VillageBoard x = told("north 0 0;free 0 0;road 0 1;style 0;");
+        VillageBoard x = told("north 0 0;free 0 0;south 0 0;free 0 0;road 0 1;road 2 3;style 0;");
         for (int i = 0; i < evening / 30; i++) {
             x.play(30);
         }
@@ -469,13 +473,16 @@ public final class PromiseTests {
         is("book of both", x.village(2, 6) + " " + x.village(0, 5), "2 2");
         VillageBoard late = lateEvening(998);
         is("play to 1000", late.play(2), NONE);
+        is("play to 999", late.play(1), 999);
+        late.undo();
         is("a move to 999", late.move(0, 1), 0);
         is("pass to 1000", late.pass(), NONE);
         is("play to 1000", late.play(1), NONE);
         is("refused", late.count(13), 3);
         is("undo", late.undo() >= 0 && late.pass() == 999, true);
         VillageBoard last = lateEvening(999);
-        is("a move to 1000", last.move(0, 1), NONE);
+        is("a move to 1000", last.lawful(2, 3) + " " + last.count(4) + " " + last.move(2, 3), "true 1 -1");
+        is("refused", last.count(13), 1);
         is("a fly is no evening", last.fly(0, 1), true);
         is("what lies ahead goes on", last.treasury(0, 30), 0);
         is("book", last.village(0, 5), 999);
@@ -598,6 +605,15 @@ public final class PromiseTests {
         // On evening 1 all may be taken, else nothing: the south gets 1 whether it is free or not.
         VillageBoard evening = told("north 2 0;free 1 0;south 5 0;road 0 1;road 1 2;takes evening=1;");
         is("a pass is as good, and last", evening.look(2, 0) + " " + evening.look(2, 1), "-4 1");
+        // The south takes on evening 1 alone, the north on evening 2 alone.
+        String beside = "north 2 0;south 5 0;road 0 1;takes ";
+        is("on the next evening", told(beside + "evening=1;").look(2, 0), -7);
+        is("not on that one", told(beside + "evening=2;").look(2, 0), -3);
+        is("on the third one", told(beside + "evening=2;").look(3, 0), 7);
+        is("not on the fourth", told(beside + "evening=3;").look(3, 0), -3);
+        String away = "north 2 0;south 5 0;free 0 0;road 0 1;road 0 2;takes ";
+        is("nothing there by then", told(away + "evening=1;").look(2, 0) + " " + told(away + "evening=1;").look(2, 1),
+                "-7 2");
         VillageBoard behind = told("north 2 0;free 0 0;south 5 0;free 3 0;road 0 1;road 1 2;road 0 3;takes evening=1;");
         is("away", behind.look(1, 1), 3);
     }
@@ -610,6 +626,14 @@ public final class PromiseTests {
         // The stone in 2 can't go anywhere once there is one in 1, nor take it on evening 1.
         VillageBoard caught = told("north 0 0;free 0 0;south 0 0;road 0 1;road 1 2;takes evening=2;");
         is("in three", caught.win(), 3);
+        String beside = "north 0 0;south 0 0;road 0 1;takes ";
+        is("by a pass first", told(beside + "evening=2;").win(), 3);
+        is("four are too many", told(beside + "evening=4;").win(), NONE);
+        is("not if it is taken", told(beside + "evening=1 or evening=2;").win(), NONE);
+        String follow = "north 0 0;south 0 0;free 0 0;north 0 0;road 0 1;road 1 2;road 2 3;takes evening=2;";
+        is("wherever it goes", told(follow).win(), 3);
+        is("unless it gets away", told("north 0 0;south 0 0;free 0 0;north 0 0;free 0 0;"
+                + "road 0 1;road 1 2;road 2 3;road 1 4;takes evening=2;").win(), NONE);
         VillageBoard two = told("north 0 0;south 0 0;south 0 0;road 0 1;road 1 2;takes 1;");
         is("the second one takes back", two.win(), NONE);
         VillageBoard both = told("north 0 0;south 0 0;south 0 0;north 0 0;road 0 1;road 3 2;takes 1;");
@@ -823,6 +847,10 @@ public final class PromiseTests {
         is("nothing to gain", full.side(0, 0) + " " + full.game(0, 1, 0), "9999 4");
         VillageBoard some = told("north 1 0;free 5 0;road 0 1;style evening=9;style 0;");
         is("10 evenings: not the tenth of the north's", some.game(0, 1, 0), 4);
+        VillageBoard tenth = told("south 1 0;free 5 0;road 0 1;style evening=9;style 0;");
+        is("the tenth of the south's", tenth.game(0, 1, 0) + " " + tenth.game(0, 1, 1), "2 0");
+        VillageBoard eleventh = told("north 1 0;free 5 0;road 0 1;style evening=10;style 0;");
+        is("not the eleventh", eleventh.game(0, 1, 0), 4);
         VillageBoard eight = told("north 1 0;free 5 0;road 0 1;style evening=8;style 0;");
         is("but the ninth", eight.game(0, 1, 0), 2);
     }
