@@ -287,6 +287,8 @@ public final class PromiseTests {
         fault("style helps guards;", 1, 12);
         fault("style helpsguards;", 3, 6);
         fault("style abcdefghijklmnopqrstuvwxyz;", 3, 6);
+        fault("style a;", 3, 6);
+        fault("style z;", 3, 6);
         fault("style `;", 1, 6);
         fault("style {;", 1, 6);
         fault("style 1helps;", 1, 7);
@@ -630,8 +632,8 @@ public final class PromiseTests {
         is("by a pass first", told(beside + "evening=2;").win(), 3);
         is("four are too many", told(beside + "evening=4;").win(), NONE);
         is("not if it is taken", told(beside + "evening=1 or evening=2;").win(), NONE);
-        String follow = "north 0 0;south 0 0;free 0 0;north 0 0;road 0 1;road 1 2;road 2 3;takes evening=2;";
-        is("wherever it goes", told(follow).win(), 3);
+        is("wherever it goes", told("north 0 0;south 0 0;free 0 0;north 0 0;free 0 0;"
+                + "road 0 1;road 1 2;road 1 4;road 3 2;road 3 4;takes evening=2;").win(), 3);
         is("unless it gets away", told("north 0 0;south 0 0;free 0 0;north 0 0;free 0 0;"
                 + "road 0 1;road 1 2;road 2 3;road 1 4;takes evening=2;").win(), NONE);
         VillageBoard two = told("north 0 0;south 0 0;south 0 0;road 0 1;road 1 2;takes 1;");
