@@ -140,7 +140,7 @@ public final class VillageBoard {
             case 1: return now.style[side];
             case 2: return land.enPrise(now.stones[side], now.stones[1 - side], now.evening);
             case 3: return pinnedOf(side);
-            case 4: return land.countMoves(now.stones[side], now.stones[1 - side], now.evening);
+            case 4: return land.listMoves(now.stones[side], now.stones[1 - side], now.evening);
             case 5: return land.worthOf(now.flags[side]);
             default: throw new NoSuchElementException("no such thing of a side");
         }
@@ -170,7 +170,7 @@ public final class VillageBoard {
         }
         int taken = has(now.stones[1 - mover], to) ? 1 : 0;
         acts.keep(now);
-        now.bringStone(mover, from, to);
+        now.bringStone(mover, 100 * from + to);
         now.endEvening(land);
         return taken;
     }
@@ -194,7 +194,7 @@ public final class VillageBoard {
             return false;
         }
         acts.keep(now);
-        now.bringStone(stone, from, to);
+        now.bringStone(stone, 100 * from + to);
         return true;
     }
 
@@ -322,7 +322,8 @@ public final class VillageBoard {
             return NONE;
         }
         // Longs: what is added is told as it is, and doesn't wrap.
-        long missing = leastThatWins(from, to) - styleGives(from, to);
+        int move = 100 * from + to;
+        long missing = leastThatWins(move) - styleGives(move);
         if (missing <= 0) {
             return 0;
         }
@@ -341,7 +342,7 @@ public final class VillageBoard {
         int own = now.stones[owner];
         int foe = now.stones[1 - owner];
         int takers = Integer.bitCount(land.takersOf(own, foe, village, now.evening));
-        int all = land.countMoves(foe, own, now.evening) + 1;
+        int all = land.listMoves(foe, own, now.evening) + 1;
         if (what == 0) {
             return takers;
         }
@@ -397,15 +398,11 @@ public final class VillageBoard {
     }
 
     private boolean keepsTreaty(int side) {
-        int own = now.stones[side];
-        int foe = now.stones[1 - side];
         int byPass = leadAfter(side, NONE, 2);
-        for (int from = 0; from < land.villages; from++) {
-            int targets = has(own, from) ? land.lawfulTargets(own, foe, from, now.evening) : 0;
-            for (int to = 0; to < land.villages; to++) {
-                if (has(targets, to) && leadAfter(side, 100 * from + to, 2) > byPass) {
-                    return false;
-                }
+        int many = land.listMoves(now.stones[side], now.stones[1 - side], now.evening);
+        for (int i = 0; i < many; i++) {
+            if (leadAfter(side, land.moves[i], 2) > byPass) {
+                return false;
             }
         }
         return true;
@@ -573,22 +570,21 @@ public final class VillageBoard {
         int mover = now.turn();
         int best = NONE;
         int most = 1;
-        for (int from = 0; from < land.villages; from++) {
-            int targets = has(now.stones[mover], from) ? targetsFrom(from) : 0;
-            for (int to = 0; to < land.villages; to++) {
-                int forked = has(targets, to) ? forkedBy(mover, from, to) : 0;
-                if (forked > most) {
-                    most = forked;
-                    best = 100 * from + to;
-                }
+        int many = land.listMoves(now.stones[mover], now.stones[1 - mover], now.evening);
+        for (int i = 0; i < many; i++) {
+            int forked = forkedBy(mover, land.moves[i]);
+            if (forked > most) {
+                most = forked;
+                best = land.moves[i];
             }
         }
         return best;
     }
 
-    private int forkedBy(int mover, int from, int to) {
-        int own = now.stones[mover] & ~(1 << from) | 1 << to;
-        int foe = now.stones[1 - mover] & ~(1 << to);
+    private int forkedBy(int mover, int move) {
+        int there = 1 << move % 100;
+        int own = now.stones[mover] & ~(1 << move / 100) | there;
+        int foe = now.stones[1 - mover] & ~there;
         return Integer.bitCount(land.enPrise(foe, own, now.evening + 1));
     }
 
@@ -710,37 +706,33 @@ public final class VillageBoard {
         int mover = now.turn();
         int best = NONE;
         int most = 0;
-        for (int from = 0; from < land.villages; from++) {
-            int targets = has(now.stones[mover], from) ? targetsFrom(from) : 0;
-            for (int to = 0; to < land.villages; to++) {
-                if (has(targets, to)) {
-                    int lead = leadAfter(mover, 100 * from + to, evenings);
-                    if (best == NONE || lead > most) {
-                        most = lead;
-                        best = 100 * from + to;
-                    }
-                }
+        int many = land.listMoves(now.stones[mover], now.stones[1 - mover], now.evening);
+        for (int i = 0; i < many; i++) {
+            int lead = leadAfter(mover, land.moves[i], evenings);
+            if (i == 0 || lead > most) {
+                most = lead;
+                best = land.moves[i];
             }
         }
-        return best != NONE && leadAfter(mover, NONE, evenings) > most ? NONE : best;
+        return many > 0 && leadAfter(mover, NONE, evenings) > most ? NONE : best;
     }
 
-    private int styleGives(int from, int to) {
+    private int styleGives(int move) {
         int mover = now.turn();
-        land.setValues(now.stones[mover], now.stones[1 - mover], now.flags[mover], from, to, now.evening);
+        land.setValues(now.stones[mover], now.stones[1 - mover], now.flags[mover], move, now.evening);
         return land.rules.give(now.style[mover]);
     }
 
-    private long leastThatWins(int from, int to) {
+    private long leastThatWins(int move) {
         int mover = now.turn();
         long need = 1;
-        for (int f = 0; f < land.villages; f++) {
-            int targets = has(now.stones[mover], f) ? targetsFrom(f) : 0;
-            for (int t = 0; t < land.villages; t++) {
-                if (has(targets, t) && (f != from || t != to)) {
-                    boolean ahead = f < from || f == from && t < to;
-                    need = Math.max(need, styleGives(f, t) + (ahead ? 1L : 0L));
-                }
+        int many = land.listMoves(now.stones[mover], now.stones[1 - mover], now.evening);
+        for (int i = 0; i < many; i++) {
+            int other = land.moves[i];
+            if (other != move) {
+                // Of like ones the first one is done: so one ahead must be outdone.
+                long ahead = other < move ? 1 : 0;
+                need = Math.max(need, styleGives(other) + ahead);
             }
         }
         return need;
@@ -756,6 +748,7 @@ public final class VillageBoard {
         final int[] fort = new int[MAX_VILLAGES];
         final int[] neighbours = new int[MAX_VILLAGES];
         final int[] firstStones = new int[2];
+        final int[] moves = new int[2 * MAX_ROADS];
         final Rules rules = new Rules();
 
         void clear() {
@@ -833,16 +826,16 @@ public final class VillageBoard {
             int open = neighbours[from] & ~own & ~foe;
             int prey = neighbours[from] & foe;
             for (int to = 0; to < villages && prey != 0; to++) {
-                if (has(prey, to) && mayTake(own, foe, from, to, evening)) {
+                if (has(prey, to) && mayTake(own, foe, 100 * from + to, evening)) {
                     open |= 1 << to;
                 }
             }
             return open;
         }
 
-        private boolean mayTake(int own, int foe, int from, int to, int evening) {
+        private boolean mayTake(int own, int foe, int move, int evening) {
             // Where a stone stands its flag flies: of the taker's own flags none is there.
-            setValues(own, foe, own, from, to, evening);
+            setValues(own, foe, own, move, evening);
             if (hasTakes) {
                 return rules.give(Rules.TAKES_RULE) > 0;
             }
@@ -859,7 +852,7 @@ public final class VillageBoard {
             int takers = 0;
             int near = neighbours[village] & foe;
             for (int from = 0; from < villages; from++) {
-                if (has(near, from) && mayTake(foe, own, from, village, evening)) {
+                if (has(near, from) && mayTake(foe, own, 100 * from + village, evening)) {
                     takers |= 1 << from;
                 }
             }
@@ -876,17 +869,27 @@ public final class VillageBoard {
             return all;
         }
 
-        int countMoves(int own, int foe, int evening) {
-            int sum = 0;
+        /** How many there are, in the order of the document. None may be listed while a list is in use. */
+        int listMoves(int own, int foe, int evening) {
+            int many = 0;
             for (int from = 0; from < villages; from++) {
-                if (has(own, from)) {
-                    sum += Integer.bitCount(lawfulTargets(own, foe, from, evening));
+                int targets = has(own, from) ? lawfulTargets(own, foe, from, evening) : 0;
+                for (int to = 0; to < villages; to++) {
+                    if (has(targets, to) && many < moves.length) {
+                        moves[many] = 100 * from + to;
+                        many++;
+                    }
                 }
             }
-            return sum;
+            return many;
         }
 
-        void setValues(int own, int foe, int ownFlags, int from, int to, int evening) {
+        void setValues(int own, int foe, int ownFlags, int move, int evening) {
+            int from = move / 100;
+            int to = move % 100;
+            if (from < 0 || from >= MAX_VILLAGES || to < 0 || to >= MAX_VILLAGES) {
+                return;
+            }
             int near = neighbours[to];
             int[] values = rules.values;
             values[Rules.HELPS] = Integer.bitCount(near & own & ~(1 << from));
@@ -914,15 +917,14 @@ public final class VillageBoard {
         static final int TAKES_RULE = MAX_STYLES;
 
         /** Below 0, so that they are no numbers: -1 less a value, or less one of these. */
-        static final int NOT = 8;
-        static final int AND = 9;
-        static final int OR = 10;
-        static final int PLUS = 11;
-        static final int MINUS = 12;
-        static final int TIMES = 13;
-        static final int BY = 14;
-        static final int LESS = 15;
-        static final int LIKE = 16;
+        static final int AND = 8;
+        static final int OR = 9;
+        static final int PLUS = 10;
+        static final int MINUS = 11;
+        static final int TIMES = 12;
+        static final int BY = 13;
+        static final int LESS = 14;
+        static final int LIKE = 15;
 
         /** Five lefts may wait in each of six expressions: this is more than they need. */
         static final int MAX_STACK = 64;
@@ -972,35 +974,28 @@ public final class VillageBoard {
             for (int at = start[rule]; at < end[rule]; at++) {
                 int item = code[at];
                 int sign = -1 - item;
-                if (sign < MAX_VALUES) {
-                    if (top < MAX_STACK) {
-                        stack[top] = item >= 0 ? item : values[sign];
-                        top++;
-                    }
-                } else if (sign == NOT) {
-                    if (top >= 1) {
-                        stack[top - 1] = stack[top - 1] == 0 ? 1 : 0;
-                    }
+                if (sign < MAX_VALUES && top < MAX_STACK) {
+                    stack[top] = item >= 0 ? item : values[sign];
+                    top++;
                 } else if (top >= 2) {
                     top--;
-                    stack[top - 1] = join(sign, stack[top - 1], stack[top]);
+                    int left = stack[top - 1];
+                    int right = stack[top];
+                    switch (sign) {
+                        case AND: left = left != 0 && right != 0 ? 1 : 0; break;
+                        case OR: left = left != 0 || right != 0 ? 1 : 0; break;
+                        case PLUS: left += right; break;
+                        case MINUS: left -= right; break;
+                        case TIMES: left *= right; break;
+                        case BY: left = right == 0 ? 0 : left / right; break;
+                        case LESS: left = left < right ? 1 : 0; break;
+                        case LIKE: left = left == right ? 1 : 0; break;
+                        default: break;
+                    }
+                    stack[top - 1] = left;
                 }
             }
             return top > 0 ? stack[top - 1] : 0;
-        }
-
-        private static int join(int sign, int left, int right) {
-            switch (sign) {
-                case AND: return left != 0 && right != 0 ? 1 : 0;
-                case OR: return left != 0 || right != 0 ? 1 : 0;
-                case PLUS: return left + right;
-                case MINUS: return left - right;
-                case TIMES: return left * right;
-                case BY: return right == 0 ? 0 : left / right;
-                case LESS: return left < right ? 1 : 0;
-                case LIKE: return left == right ? 1 : 0;
-                default: return 0;
-            }
         }
     }
 
@@ -1199,7 +1194,9 @@ public final class VillageBoard {
                 land.rules.addSign(sign);
             }
             for (int i = 0; i < nots; i++) {
-                land.rules.addSign(Rules.NOT);
+                // What isn't 0 holds: so a not is a test for 0.
+                land.rules.addNumber(0);
+                land.rules.addSign(Rules.LIKE);
             }
             return true;
         }
@@ -1388,9 +1385,9 @@ public final class VillageBoard {
             return has(flags[0], village) ? 0 : has(flags[1], village) ? 1 : NOBODY;
         }
 
-        void bringStone(int side, int from, int to) {
-            int there = 1 << to;
-            stones[side] = stones[side] & ~(1 << from) | there;
+        void bringStone(int side, int move) {
+            int there = 1 << move % 100;
+            stones[side] = stones[side] & ~(1 << move / 100) | there;
             stones[1 - side] &= ~there;
             flags[side] |= there;
             flags[1 - side] &= ~there;
@@ -1410,7 +1407,7 @@ public final class VillageBoard {
         int playEvening(Land land) {
             int move = moveByStyle(land);
             if (move != NONE) {
-                bringStone(turn(), move / 100, move % 100);
+                bringStone(turn(), move);
             }
             endEvening(land);
             return move;
@@ -1422,37 +1419,23 @@ public final class VillageBoard {
             int rule = style[turn()];
             int best = NONE;
             int most = 0;
-            for (int from = 0; from < land.villages && rule != NONE; from++) {
-                int targets = has(own, from) ? land.lawfulTargets(own, foe, from, evening) : 0;
-                for (int to = 0; to < land.villages; to++) {
-                    if (has(targets, to)) {
-                        land.setValues(own, foe, flags[turn()], from, to, evening);
-                        int given = land.rules.give(rule);
-                        if (given > most) {
-                            most = given;
-                            best = 100 * from + to;
-                        }
-                    }
+            int many = rule == NONE ? 0 : land.listMoves(own, foe, evening);
+            for (int i = 0; i < many; i++) {
+                land.setValues(own, foe, flags[turn()], land.moves[i], evening);
+                int given = land.rules.give(rule);
+                if (given > most) {
+                    most = given;
+                    best = land.moves[i];
                 }
             }
             return best;
         }
 
         void drawEvening(Land land, int drawn) {
-            int own = stones[turn()];
-            int foe = stones[1 - turn()];
-            int choices = land.countMoves(own, foe, evening) + 1;
-            int left = choices > 0 ? drawn % choices : 0;
-            for (int from = 0; from < land.villages && left >= 0; from++) {
-                int targets = has(own, from) ? land.lawfulTargets(own, foe, from, evening) : 0;
-                for (int to = 0; to < land.villages && left >= 0; to++) {
-                    if (has(targets, to)) {
-                        if (left == 0) {
-                            bringStone(turn(), from, to);
-                        }
-                        left--;
-                    }
-                }
+            int many = land.listMoves(stones[turn()], stones[1 - turn()], evening);
+            int choice = drawn % Math.max(1, many + 1);
+            if (choice >= 0 && choice < many) {
+                bringStone(turn(), land.moves[choice]);
             }
             endEvening(land);
         }
