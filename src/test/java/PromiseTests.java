@@ -1,25 +1,8 @@
 import java.util.NoSuchElementException;
 
 /** For each promise of the document ordinary inputs, the edges it names, and wrong inputs; all answers by hand. */
-public final class PromiseTests {
-    private static final int NONE = VillageBoard.NONE;
-
-    /** Village 2 is the south's, between the north's 3 and the free 1; 0 stands behind 3. */
-    private static final String SMALL = "north 3 0;free 1 0;south 5 0;north 2 0;"
-            + "road 0 1;road 1 2;road 3 2;road 0 3;style takes*9+worth;style worth-guards;";
-
-    /** A row of villages, with a stone at each end, and a free one off the row that has no road. */
-    private static final String ROW = "north 1 0;free 2 0;free 4 0;free 8 0;south 16 0;free 20 0;"
-            + "road 0 1;road 1 2;road 2 3;road 3 4;";
-
-    private static int checks = 0;
-    private static int wrong = 0;
-
+public final class PromiseTests extends Checks {
     private PromiseTests() {
-    }
-
-    interface Call {
-        Object run();
     }
 
     public static void main(String[] args) {
@@ -63,77 +46,7 @@ public final class PromiseTests {
         whose();
         images();
         status();
-        System.out.println("PromiseTests: " + checks + " checks, " + wrong + " wrong");
-        System.exit(wrong == 0 ? 0 : 1);
-    }
-
-    // ---- helpers
-
-    private static void is(String what, Object got, Object due) {
-        checks++;
-        if (!String.valueOf(got).equals(String.valueOf(due))) {
-            wrong++;
-            System.out.println(what + " answered " + got + ", due is " + due);
-        }
-    }
-
-    private static void refusesElement(String what, Call call) {
-        is(what, thrownBy(call), NoSuchElementException.class);
-    }
-
-    private static void refusesArgument(String what, Call call) {
-        is(what, thrownBy(call), IllegalArgumentException.class);
-    }
-
-    private static Object thrownBy(Call call) {
-        try {
-            return call.run();
-        } catch (RuntimeException e) {
-            return e.getClass();
-        }
-    }
-
-    private static void feed(VillageBoard x, String text) {
-        for (int i = 0; i < text.length(); i += 20) {
-            int[] n = new int[5];
-            for (int k = 0; k < 20; k++) {
-                n[k / 4] = n[k / 4] << 8 | (i + k < text.length() ? text.charAt(i + k) : ' ');
-            }
-            x.feed(n[0], n[1], n[2], n[3], n[4]);
-        }
-    }
-
-    private static VillageBoard told(String text) {
-        VillageBoard x = new VillageBoard();
-        feed(x, text);
-        is("board of " + text, x.board(text.length()), 0);
-        return x;
-    }
-
-    private static void fault(String text, int code, int place) {
-        VillageBoard x = new VillageBoard();
-        feed(x, text);
-        is("board of " + text, x.board(text.length()), code);
-        is("fault of " + text, x.fault(), place);
-        is("refused texts", x.count(12), code == 0 ? 0 : 1);
-    }
-
-    private static void takesGives(String expr, boolean more) {
-        is(expr, told("north 7 0;south 5 3;road 0 1;takes " + expr + ";").lawful(0, 1), more);
-    }
-
-    private static void gives(String expr, int due) {
-        takesGives("(" + expr + ")=" + due, true);
-    }
-
-    private static String repeat(String s, int n) {
-        return s.repeat(n);
-    }
-
-    private static void pass(VillageBoard x, int many) {
-        for (int i = 0; i < many; i++) {
-            x.pass();
-        }
+        finish("PromiseTests");
     }
 
     // ---- 1 to 4
@@ -235,11 +148,11 @@ public final class PromiseTests {
         fault(two + "road x 0;", 1, 23);
         fault(two + "road 0 x;", 1, 25);
         fault("road 0 0;" + two, 3, 5);
-        fault(repeat("free 0 0;", 10), 0, NONE);
-        fault(repeat("free 0 0;", 10) + " south x;", 2, 91);
+        fault("free 0 0;".repeat(10), 0, NONE);
+        fault("free 0 0;".repeat(10) + " south x;", 2, 91);
         fault("style 1;style 1;style 1;style;", 2, 24);
         fault("takes 1;style 1;takes;", 5, 16);
-        StringBuilder many = new StringBuilder(repeat("free 0 0;", 7));
+        StringBuilder many = new StringBuilder("free 0 0;".repeat(7));
         int roads = 0;
         for (int a = 0; a < 7; a++) {
             for (int b = a + 1; b < 7 && roads < 18; b++, roads++) {
@@ -455,18 +368,6 @@ public final class PromiseTests {
         is("taxes", y.side(0, 0) + " " + y.side(1, 0), "10 12");
     }
 
-    private static VillageBoard lateEvening(int evening) {
-        VillageBoard x = told("north 0 0;free 0 0;south 0 0;free 0 0;road 0 1;road 2 3;style 0;");
-        for (int i = 0; i < evening / 30; i++) {
-            x.play(30);
-        }
-        for (int i = 0; i < evening % 30; i++) {
-            x.pass();
-        }
-        is("evening", x.count(3), evening);
-        return x;
-    }
-
     private static void passes() {
         VillageBoard x = told(SMALL);
         is("pass", x.pass(), 1);
@@ -662,7 +563,7 @@ public final class PromiseTests {
         is("not through an own one", y.journey(0, 2), NONE);
         refusesElement("journey", () -> x.journey(0, 6));
         refusesElement("journey", () -> x.journey(-1, 0));
-        StringBuilder longRow = new StringBuilder("north 0 0;" + repeat("free 0 0;", 9));
+        StringBuilder longRow = new StringBuilder("north 0 0;" + "free 0 0;".repeat(9));
         for (int i = 0; i < 9; i++) {
             longRow.append("road ").append(i).append(' ').append(i + 1).append(';');
         }
@@ -844,7 +745,7 @@ public final class PromiseTests {
         refusesElement("ahead of both alike", () -> like.game(3, 3, 0));
         refusesArgument("game", () -> like.game(1, 1, 0));
         // What each gains is told from now on: 9999 is full, so nothing is gained.
-        VillageBoard full = told(repeat("north 20 0;", 9) + "free 1 0;road 0 9;style turns;style 0;");
+        VillageBoard full = told("north 20 0;".repeat(9) + "free 1 0;road 0 9;style turns;style 0;");
         pass(full, 60);
         is("nothing to gain", full.side(0, 0) + " " + full.game(0, 1, 0), "9999 4");
         VillageBoard some = told("north 1 0;free 5 0;road 0 1;style evening=9;style 0;");
