@@ -90,6 +90,8 @@ final class AheadBoundaries extends Twins {
         x.fly(0, 1);
         is("no guard: it is already", x.side(0, 2) + " " + x.side(0, 3), "512 0");
         is("only another stone counts", told("north 0 0;south 0 0;road 0 1;").side(0, 3), 0);
+        VillageBoard back = told("north 0 0;south 0 0;" + "free 0 0;".repeat(7) + "north 0 0;road 0 9;road 1 0;");
+        is("the last village", back.side(0, 3), 512);
     }
 
     private static void hangs() {
@@ -187,6 +189,10 @@ final class AheadBoundaries extends Twins {
         is("it can't be taken", told(middle + "takes 0;").look(2, 0) + " " + told(middle + "takes 0;").look(3, 0), "3 3");
         VillageBoard fled = told(BESIDE + "evening=1;free 0 0;road 0 2;");
         is("a flag stays behind, and is taken", fled.look(2, 0), -7);
+        // It goes to 1 on evening 0, and takes on evening 2; the other one, on evening 1, may not.
+        VillageBoard caught = told("north 0 0;free 0 0;south 5 0;road 0 1;road 1 2;takes evening=2;");
+        is("evening by evening, by moves", caught.look(1, 0) + " " + caught.look(2, 0) + " " + caught.look(3, 0) + " "
+                + caught.look(3, 1), "-5 -5 5 1");
     }
 
     private static void bestMoves() {
@@ -201,6 +207,12 @@ final class AheadBoundaries extends Twins {
         VillageBoard home = told("north 4 0;free 0 0;south 4 0;road 0 1;road 0 2;takes 0;");
         is("a pass last", home.look(1, 1), 1);
         is("a pass alone", home.look(2, 1) + " " + home.look(2, 0), "-1 0");
+        VillageBoard flag = told("north 0 0;south 3 0;free 5 0;free 0 0;road 0 1;road 0 2;takes 0;");
+        flag.fly(1, 3);
+        is("3 that the other one has are 6", flag.look(1, 0) + " " + flag.look(1, 1), "3 1");
+        // On evening 1 the other one takes it, wherever it is; on evening 0 or 2 it couldn't, and it would stay.
+        VillageBoard next = told(BESIDE + "evening=1;free 0 0;road 0 2;");
+        is("the answer is on the next evening", next.look(2, 1), 2);
         // Worth 8 makes up for the 4 lost and the 4 that the other one gains; 7 doesn't, 9 does more.
         for (int worth = 7; worth <= 9; worth++) {
             VillageBoard x = told("north 4 0;free " + worth + " 0;south 4 0;road 0 1;road 0 2;takes 0;");
@@ -231,6 +243,23 @@ final class AheadBoundaries extends Twins {
         is("it gets away", told(one + "free 0 0;road 1 2;takes evening=2;").win(), NONE);
         is("it can't", told(one + "free 0 0;road 1 2;road 0 2;takes evening=2;").win(), 3);
         is("it takes", told(one + "takes evening=1 or evening=2;").win(), NONE);
+        String caught = "north 0 0;free 0 0;south 0 0;road 0 1;road 1 2;takes evening=";
+        is("by a move first", told(caught + "2;").win(), 3);
+        is("five are too many", told(caught + "4;").win(), NONE);
+        is("it takes what comes", told(caught + "1 or evening=2;").win(), NONE);
+        is("away from where it went", told("north 0 0;free 0 0;south 0 0;free 0 0;road 0 1;road 1 2;road 2 3;road 3 0;"
+                + "takes evening=2;").win(), NONE);
+        is("so from 3", told("free 0 0;south 0 0;free 0 0;north 0 0;road 0 1;road 1 2;road 2 3;road 3 0;"
+                + "takes evening=2;").win(), NONE);
+        is("with a help", told("north 0 0;south 0 1;north 0 0;road 0 1;road 2 1;").win(), 1);
+        is("without one", told("north 0 0;south 0 1;north 0 0;road 0 1;").win(), NONE);
+        // The south's 1 takes 0, without a help of its own, and is where it can't be taken then.
+        is("it takes without a help", told("north 0 0;south 5 0;north 0 0;road 0 1;road 0 2;"
+                + "takes helps=0 and evening=1 or evening=2 and worth=5;").win(), NONE);
+        is("village 0 gets away", told("south 0 0;north 0 0;free 0 0;road 1 0;road 0 2;takes evening=2;").win(), NONE);
+        is("wherever it goes", told("north 0 0;south 0 0;free 0 0;north 0 0;free 0 0;"
+                + "road 0 1;road 1 2;road 1 4;road 3 2;road 3 4;takes evening=2;").win(), 3);
+        is("away, and taken too late", told(one + "free 0 0;road 1 2;takes evening=2 or evening=4;").win(), NONE);
     }
 
     private static void noWin() {
@@ -296,6 +325,11 @@ final class AheadBoundaries extends Twins {
         }
         VillageBoard last = told("free 0 0;".repeat(8) + "free 1 0;south 1 0;road 8 9;style evening=29;");
         is("the last evening, from 9 to 8", last.played(28) + " " + last.played(29), "-1 908");
+        // Acts stop at evening 999; what is only foreseen goes on (see NOTES.md).
+        VillageBoard late = told("north 1 0;free 1 0;road 0 1;style evening=1000 or evening=1028;");
+        passTo(late, 999);
+        is("beyond 999", late.played(0) + " " + late.played(1) + " " + late.played(29) + " " + late.turned(1) + " "
+                + late.pass(), "-1 1 100 2 -1");
         last.pass();
         is("from now on", last.played(27) + " " + last.played(28) + " " + last.played(29), "-1 908 -1");
     }
@@ -367,6 +401,8 @@ final class AheadBoundaries extends Twins {
         is("from -1", told(land + "0-1;").gift(0, 1), 2);
         is("after it is given, so it moves", told(land + "worth+3*(worth=1);").gift(0, 1) + " "
                 + told(land + "worth+2*(worth=1);").gift(0, 1) + " " + told(land + "worth+2*(worth=1);").played(0), "0 1 2");
+        VillageBoard high = told("free 1 0;" + "free 0 0;".repeat(7) + "free 4 0;north 0 0;road 9 0;road 9 8;style worth;");
+        is("from 9 to 0, from 9 to 8", high.gift(9, 0) + " " + high.gift(9, 8), "3 0");
         VillageBoard south = told("south 0 0;free 1 0;road 0 1;style 0;style 0-6;");
         south.pass();
         is("the style of whose turn it is", south.gift(0, 1), 7);
@@ -642,6 +678,13 @@ final class AheadBoundaries extends Twins {
             is("so for the south", south.treaty(), worth <= 2);
             south.pass();
             is("whosever turn", south.treaty(), worth <= 2);
+        }
+        // The third evening counts no more: going to 1 gains nothing yet.
+        is("not two evenings more", told("north 0 0;free 0 0;free 9 0;road 0 1;road 1 2;").treaty(), true);
+        // By a pass it is taken in 0, and has -7 then; by going to 2 it has what that is worth more.
+        for (int worth = 0; worth <= 1; worth++) {
+            is("a pass has an answer, too: " + worth, told(BESIDE + "evening=1;free " + worth + " 0;road 0 2;").treaty(),
+                    worth == 0);
         }
         // What it has comes by its own move now, on this evening; the answer on the next one.
         is("taking now", told(BESIDE + "evening=0;").treaty(), false);

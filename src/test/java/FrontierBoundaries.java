@@ -101,6 +101,7 @@ final class FrontierBoundaries extends Twins {
         x.fly(1, 0);
         x.fly(3, 1);
         is("split by the other side's", x.parts(0) + " " + x.parts(1), "2 2");
+        is("0 is no part of others without a road", told("north 0 0;north 0 0;north 0 0;road 1 2;").parts(0), 2);
         is("each three and six by itself", told(ALL_ROADS).parts(0) + " " + told(ALL_ROADS).parts(1), "3 6");
     }
 
@@ -120,6 +121,10 @@ final class FrontierBoundaries extends Twins {
         is("held by 3", held.safe(0) + " " + held.lawful(0, 1), "0 true");
         VillageBoard alone = told("north 0 0;south 0 0;road 0 1;takes 1;");
         is("nobody is left to take it", alone.safe(0) + " " + alone.safe(1), "2 1");
+        is("a stone is there then, to be taken", told(land + "takes takes;").safe(0), 8);
+        // The move ends its evening: "then" is on the next one (see NOTES.md).
+        is("then", told(land + "takes evening=0;").safe(0) + " " + told(land + "takes evening=1;").safe(0) + " "
+                + told(land + "takes evening=2;").safe(0), "10 8 10");
     }
 
     private static void safeWithoutAStone() {
@@ -149,6 +154,7 @@ final class FrontierBoundaries extends Twins {
         VillageBoard y = told(row.replaceFirst("(free 0 0;){5}", "free 0 0;".repeat(4) + "south 0 0;"));
         is("up to a stone", y.reach(0) + " " + y.reach(5), "30 990");
         is("nowhere", told("north 0 0;north 0 0;road 0 1;").reach(0) + " " + told("north 0 0;free 0 0;").reach(0), "0 0");
+        is("not to 0 without a road", told("free 0 0;north 0 0;free 0 0;road 1 2;").reach(1), 4);
         for (int v = 0; v < 10; v++) {
             is("as journeys are", (y.reach(0) >> v & 1) == 1, v > 0 && y.journey(0, v) != NONE);
         }
@@ -231,6 +237,11 @@ final class FrontierBoundaries extends Twins {
         is("of whose turn it is", from.fork(), 300);
         VillageBoard high = told("south 0 0;south 0 0;" + "free 0 0;".repeat(7) + "north 0 0;road 9 8;road 8 0;road 8 1;");
         is("from 9 to 8", high.fork(), 908);
+        VillageBoard left = told("south 0 0;south 0 0;" + "free 0 0;".repeat(7) + "north 0 0;road 9 8;road 9 0;road 8 1;");
+        is("what it was beside before is not en prise then", left.fork(), NONE);
+        String two = land + "road 2 3;road 2 4;takes evening=";
+        // The move ends its evening: "then" is on the next one (see NOTES.md).
+        is("then", told(two + "0;").fork() + " " + told(two + "1;").fork() + " " + told(two + "2;").fork(), "-1 2 -1");
     }
 
     private static void noFork() {
@@ -247,6 +258,8 @@ final class FrontierBoundaries extends Twins {
                 + " than by this one (the other one's best answer to it); none, if it may not.");
         VillageBoard x = told("north 0 0;free 4 0;free 5 0;road 0 1;road 0 2;");
         is("the best, one less", x.regret(0, 2) + " " + x.regret(0, 1), "0 1");
+        VillageBoard high = told("free 1 0;" + "free 0 0;".repeat(7) + "free 4 0;north 0 0;road 9 0;road 9 8;");
+        is("from 9 to 0, from 9 to 8", high.regret(9, 0) + " " + high.regret(9, 8), "3 0");
         VillageBoard like = told("north 0 0;free 5 0;free 5 0;road 0 1;road 0 2;");
         is("of like ones none", like.regret(0, 1) + " " + like.regret(0, 2), "0 0");
         // A pass is best where the move gains 7 but loses 8 by the answer; at 8 it is as good.

@@ -588,9 +588,11 @@ final class PlayBoundaries extends Twins {
         is("the fly", x.undo() + " " + x.count(5) + " " + x.count(7), "4 10 11");
         is("the style", x.undo() + " " + x.side(1, 1) + " " + x.count(3), "3 1 3");
         is("the move", x.undo() + " " + x.count(5) + " " + x.count(7) + " " + x.count(3) + " " + x.count(4), "2 9 9 2 0");
-        is("a pass", x.undo() + " " + x.count(3) + " " + x.count(4) + " " + x.side(0, 0) + " " + x.village(2, 6),
-                "1 1 1 5 1");
-        is("the first one", x.undo() + " " + x.count(3) + " " + x.side(0, 0) + " " + x.village(2, 6), "0 0 0 0");
+        is("its treasuries", x.side(0, 0) + " " + x.side(1, 0), "10 10");
+        is("a pass", x.undo() + " " + x.count(3) + " " + x.count(4) + " " + x.side(0, 0) + " " + x.side(1, 0) + " "
+                + x.village(0, 5) + " " + x.village(2, 6), "1 1 1 5 5 1 1");
+        is("the first one", x.undo() + " " + x.count(3) + " " + x.side(0, 0) + " " + x.side(1, 0) + " "
+                + x.village(0, 5) + " " + x.village(2, 6), "0 0 0 0 0 0");
     }
 
     private static void undoing() {

@@ -110,6 +110,8 @@ final class TextBoundaries extends Twins {
         is("owes, parts, key", x.owes(0) + " " + x.parts(1) + " " + x.key(0), "0 0 -1");
         is("undo, restore", x.undo() + " " + x.restore(), "-1 false");
         is("acts", x.teach(0, NONE) + " " + x.play(30) + " " + x.pass() + " " + x.count(9), "-1 30 31 3");
+        VillageBoard undone = new VillageBoard();
+        is("undone", undone.pass() + " " + undone.undo() + " " + undone.count(3), "1 0 0");
         is("as a board of no lines", whole(new VillageBoard()), whole(told("")));
     }
 
@@ -182,14 +184,26 @@ final class TextBoundaries extends Twins {
         feed(x, SMALL);
         is("again", x.board(SMALL.length()), 0);
         is("as a new one", whole(x), whole(told(SMALL)));
-        VillageBoard full = told(PlayBoundaries.FULL);
-        passTo(full, 61);
-        feed(full, "south 4 0;");
-        is("a small one behind a full one", full.board(10), 0);
-        is("as a new one", whole(full), whole(told("south 4 0;")));
-        feed(full, PlayBoundaries.FULL);
-        is("a full one behind a small one", full.board(PlayBoundaries.FULL.length()), 0);
-        is("as a new one", whole(full), whole(told(PlayBoundaries.FULL)));
+        String[] texts = {PlayBoundaries.FULL, "", "south 4 0;", SMALL, "takes 1;" + SMALL};
+        for (String first : texts) {
+            for (String second : texts) {
+                for (String third : texts) {
+                    VillageBoard y = told(first);
+                    passTo(y, 31);
+                    feed(y, second);
+                    y.board(second.length());
+                    feed(y, third);
+                    is("the third one", y.board(third.length()), 0);
+                    is("as a new one", whole(y), whole(told(third)));
+                }
+            }
+        }
+        String longOne = "north 0 0;south 0 0;road 0 1;takes  330=1" + "+1".repeat(329) + ";";
+        VillageBoard z = new VillageBoard();
+        for (int i = 0; i < 12; i++) {
+            feed(z, longOne);
+            is("as long as can be, and again", z.board(700) + " " + z.lawful(0, 1), "0 true");
+        }
     }
 
     private static void allStaysAtAFault() {
@@ -203,6 +217,19 @@ final class TextBoundaries extends Twins {
         feed(x, "free 7 2;free 0 0;road 0 0;");
         // What a text tells is wholly read before any of it counts: the villages of this one don't.
         is("all else", whole(x).replace("fault 25", "fault 16"), whole(twin));
+        String[] texts = {"north 9 9;?", "north 9 9;free 21 0;", "north 9 9;takes x;", "free 0 0;road 0 0;",
+            "takes 1;style 1;takes 1;", "style 1;".repeat(4), "north 9 9;".repeat(11), roads(19)};
+        int[] codes = {1, 2, 3, 4, 5, 2, 2, 2};
+        for (int i = 0; i < texts.length; i++) {
+            VillageBoard y = told(LIVELY);
+            y.move(0, 1);
+            feed(y, texts[i]);
+            is("fault of " + texts[i], y.board(texts[i].length()), codes[i]);
+            String place = "fault " + y.fault() + " ";
+            VillageBoard like = told(LIVELY);
+            like.move(0, 1);
+            is("all else, of " + texts[i], whole(y).replace(place, "fault -1 "), whole(like));
+        }
     }
 
     private static void whatBoardForgets() {
@@ -669,6 +696,7 @@ final class TextBoundaries extends Twins {
         gives("0 or 0", 0);
         takesGives(LEAST + " and 1", true);
         takesGives("not " + LEAST, false);
+        is("whatever the values are", told(star(1, 2, "south 3 4;") + "takes not 0 and not not 5;").lawful(1, 0), true);
     }
 
     // ---- values of a move
