@@ -936,6 +936,20 @@ public final class VillageBoard {
         final int[] values = new int[MAX_VALUES];
         final int[] stack = new int[MAX_STACK];
 
+        static String nameOf(int value) {
+            switch (value) {
+                case HELPS: return "helps";
+                case GUARDS: return "guards";
+                case FORT: return "fort";
+                case WORTH: return "worth";
+                case HOME: return "home";
+                case TAKES: return "takes";
+                case TURNS: return "turns";
+                case EVENING: return "evening";
+                default: return "";
+            }
+        }
+
         void clear() {
             length = 0;
             for (int rule = 0; rule <= MAX_STYLES; rule++) {
@@ -1185,8 +1199,8 @@ public final class VillageBoard {
             if (!readLevel(level + 1, within)) {
                 return false;
             }
-            int sign = joint(level);
-            if (sign != NONE) {
+            if (kind == '<' || kind == '=') {
+                int sign = kind == '<' ? Rules.LESS : Rules.LIKE;
                 nextToken();
                 if (!readLevel(level + 1, within)) {
                     return false;
@@ -1214,7 +1228,10 @@ public final class VillageBoard {
                     return refuse(CANT_STAND);
                 }
             } else if (kind == WORD) {
-                int value = valueOfWord();
+                int value = NONE;
+                for (int one = 0; one < Rules.MAX_VALUES; one++) {
+                    value = isWord(Rules.nameOf(one)) ? one : value;
+                }
                 if (value == NONE) {
                     return refuse(UNKNOWN);
                 }
@@ -1236,23 +1253,10 @@ public final class VillageBoard {
             switch (level) {
                 case OR_LEVEL: return isWord("or") ? Rules.OR : NONE;
                 case AND_LEVEL: return isWord("and") ? Rules.AND : NONE;
-                case NOT_LEVEL: return kind == '<' ? Rules.LESS : kind == '=' ? Rules.LIKE : NONE;
                 case SUM_LEVEL: return kind == '+' ? Rules.PLUS : kind == '-' ? Rules.MINUS : NONE;
                 case PRODUCT_LEVEL: return kind == '*' ? Rules.TIMES : kind == '/' ? Rules.BY : NONE;
                 default: return NONE;
             }
-        }
-
-        private int valueOfWord() {
-            return isWord("helps") ? Rules.HELPS
-                    : isWord("guards") ? Rules.GUARDS
-                    : isWord("fort") ? Rules.FORT
-                    : isWord("worth") ? Rules.WORTH
-                    : isWord("home") ? Rules.HOME
-                    : isWord("takes") ? Rules.TAKES
-                    : isWord("turns") ? Rules.TURNS
-                    : isWord("evening") ? Rules.EVENING
-                    : NONE;
         }
 
         private boolean isWord(String word) {
@@ -1405,29 +1409,24 @@ public final class VillageBoard {
         }
 
         int playEvening(Land land) {
-            int move = moveByStyle(land);
-            if (move != NONE) {
-                bringStone(turn(), move);
-            }
-            endEvening(land);
-            return move;
-        }
-
-        private int moveByStyle(Land land) {
-            int own = stones[turn()];
-            int foe = stones[1 - turn()];
-            int rule = style[turn()];
+            int side = turn();
+            int own = stones[side];
+            int foe = stones[1 - side];
             int best = NONE;
             int most = 0;
-            int many = rule == NONE ? 0 : land.listMoves(own, foe, evening);
+            int many = style[side] == NONE ? 0 : land.listMoves(own, foe, evening);
             for (int i = 0; i < many; i++) {
-                land.setValues(own, foe, flags[turn()], land.moves[i], evening);
-                int given = land.rules.give(rule);
+                land.setValues(own, foe, flags[side], land.moves[i], evening);
+                int given = land.rules.give(style[side]);
                 if (given > most) {
                     most = given;
                     best = land.moves[i];
                 }
             }
+            if (best != NONE) {
+                bringStone(side, best);
+            }
+            endEvening(land);
             return best;
         }
 
@@ -1555,7 +1554,7 @@ public final class VillageBoard {
 
     private static final class Foresight {
 
-        static int bestLead(Land land, int own, int foe, int ownFlags, int foeFlags, int evening, int left) {
+        private static int bestLead(Land land, int own, int foe, int ownFlags, int foeFlags, int evening, int left) {
             int most = left <= 1
                     ? land.worthOf(ownFlags) - land.worthOf(foeFlags)
                     : -bestLead(land, foe, own, foeFlags, ownFlags, evening + 1, left - 1);
@@ -1578,7 +1577,7 @@ public final class VillageBoard {
             return most;
         }
 
-        static boolean canForceWin(Land land, int own, int foe, int evening, int left) {
+        private static boolean canForceWin(Land land, int own, int foe, int evening, int left) {
             // An evening takes one stone at most, and every other one is the foe's.
             if (Integer.bitCount(foe) > (left + 1) / 2) {
                 return false;

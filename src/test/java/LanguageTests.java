@@ -25,6 +25,9 @@ import java.lang.reflect.Constructor;
 import java.lang.reflect.Field;
 import java.lang.reflect.Method;
 import java.lang.reflect.Modifier;
+import java.nio.charset.StandardCharsets;
+import java.nio.file.Files;
+import java.nio.file.Path;
 import java.util.ArrayList;
 import java.util.Arrays;
 import java.util.HashMap;
@@ -66,6 +69,8 @@ public final class LanguageTests {
 
     public static void main(String[] args) throws Exception {
         face();
+        words(System.getProperty("villageboard.source", "src/main/java/VillageBoard.java"),
+                System.getProperty("villageboard.document", "../shared/DOC.md"));
         source(System.getProperty("villageboard.source", "src/main/java/VillageBoard.java"));
         room();
         System.out.println("LanguageTests: " + checks + " checks, " + wrong + " wrong");
@@ -115,6 +120,20 @@ public final class LanguageTests {
         is(all.length == 1 && Modifier.isPublic(all[0].getModifiers()), "one public constructor");
     }
 
+    /** The face by the document's own lines: what a method throws and what its arguments are called, too. */
+    private static void words(String program, String document) throws Exception {
+        List<String> lines = Files.readAllLines(Path.of(program), StandardCharsets.UTF_8);
+        int told = 0;
+        for (String line : Files.readAllLines(Path.of(document), StandardCharsets.UTF_8)) {
+            if (line.startsWith("    public ") && line.endsWith(";")) {
+                told++;
+                String due = line.contains(" static ") ? line : line.replace(";", " {");
+                is(lines.contains(due), "the face has not:" + due);
+            }
+        }
+        is(told == 44, "the document tells of " + told + " members");
+    }
+
     // ---- the source
 
     private static void source(String path) throws Exception {
@@ -133,6 +152,7 @@ public final class LanguageTests {
         is(rules.classes <= 13, rules.classes + " classes");
         int deep = rules.deepest();
         is(deep <= 8, "calls go " + deep + " deep: " + rules.deepestWay());
+        rules.whatCallsItselfIsPrivate();
         files.close();
     }
 
@@ -198,7 +218,7 @@ public final class LanguageTests {
             if (!makes) {
                 is(!library || LIBRARY.contains(name), at(tree) + name + " isn't in the library");
             }
-            if (!library && method != null) {
+            if (method != null) {
                 calls.get(method).add(called);
             }
             return super.visitMethodInvocation(tree, nothing);
@@ -288,6 +308,30 @@ public final class LanguageTests {
             open.remove(of);
             depth.put(of, most + 1);
             return most + 1;
+        }
+
+        private Set<Element> calledBy(Element of) {
+            Set<Element> known = new HashSet<>();
+            List<Element> open = new ArrayList<>(calls.getOrDefault(of, Set.of()));
+            while (!open.isEmpty()) {
+                Element one = open.remove(open.size() - 1);
+                if (known.add(one)) {
+                    open.addAll(calls.getOrDefault(one, Set.of()));
+                }
+            }
+            return known;
+        }
+
+        void whatCallsItselfIsPrivate() {
+            int found = 0;
+            for (Element e : calls.keySet()) {
+                if (calledBy(e).contains(e)) {
+                    found++;
+                    is(e.getModifiers().contains(javax.lang.model.element.Modifier.PRIVATE),
+                            e.getSimpleName() + " calls itself and isn't private");
+                }
+            }
+            is(found > 0, "something calls itself");
         }
 
         int deepest() {
